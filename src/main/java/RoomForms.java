@@ -59,7 +59,7 @@ public final class RoomForms {
             throw new IndexOutOfBoundsException("200 BLOCKS are there");
         }
         int span = form.spanOf(n);
-        int place = form.take(n, span);
+        int place = form.take(span);
         return place == NONE ? NONE : room.settle(place, span, n);
     }
 
@@ -493,10 +493,10 @@ public final class RoomForms {
         /** Begins anew with the ROOM, which is empty. */
         abstract void begin();
 
-        /** Finds the place of a new BLOCK, takes it and counts what it came to; NONE: no room. */
-        abstract int take(int n, int span);
+        /** Finds the place of a new BLOCK of a SPAN, takes it and counts what it came to; NONE: no room. */
+        abstract int take(int span);
 
-        /** The words of a BLOCK that was given back are free again in the ROOM: keeps up with that. */
+        /** Keeps up with a BLOCK that was given back; in the ROOM its words are free again already. */
         abstract void takeBack(int place, int span);
 
         int spanOf(int n) {
@@ -535,9 +535,9 @@ public final class RoomForms {
             lastEnd = 0;
         }
 
-        int take(int n, int span) {
+        int take(int span) {
             Stretches runs = room.listRuns();
-            int place = runs.find(number, n, lastEnd);
+            int place = runs.find(number, span, lastEnd);
             room.addLooked(runs.looked());
             if (place != NONE) {
                 lastEnd = place + span;
@@ -571,7 +571,7 @@ public final class RoomForms {
             return powerFrom(n);
         }
 
-        int take(int n, int span) {
+        int take(int span) {
             room.addLooked(freeParts());
             int place = smallestPiece(span);
             if (place == NONE) {
@@ -645,7 +645,7 @@ public final class RoomForms {
             return n <= PAGE ? powerFrom(n) : (n + PAGE - 1) / PAGE * PAGE;
         }
 
-        int take(int n, int span) {
+        int take(int span) {
             if (span > PAGE) {
                 return takeRow(span / PAGE, span);
             }
@@ -740,7 +740,7 @@ public final class RoomForms {
             return (n + GRAIN - 1) / GRAIN * GRAIN;
         }
 
-        int take(int n, int span) {
+        int take(int span) {
             int need = span / GRAIN;
             int step = Math.min(powerFrom(need), MOST_STEP);
             for (int g = 0; g + need <= grains; g += step) {
@@ -783,10 +783,10 @@ public final class RoomForms {
             runs.add(0, room.words());
         }
 
-        int take(int n, int span) {
-            int i = findInListOf(n);
+        int take(int span) {
+            int i = findInListOf(span);
             if (i == NONE) {
-                i = firstOfLaterList(listOf(n));
+                i = firstOfLaterList(listOf(span));
             }
             if (i == NONE) {
                 return NONE;
@@ -878,7 +878,7 @@ public final class RoomForms {
             top = 0;
         }
 
-        int take(int n, int span) {
+        int take(int span) {
             room.addLooked(1);
             if (span > room.words() - top) {
                 return NONE;
@@ -918,7 +918,7 @@ public final class RoomForms {
             quick.clear();
         }
 
-        int take(int n, int span) {
+        int take(int span) {
             int place = takeQuick(span);
             if (place == NONE) {
                 place = takeFirst(span);
