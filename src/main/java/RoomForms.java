@@ -577,7 +577,7 @@ public final class RoomForms {
             if (place == NONE) {
                 return NONE;
             }
-            for (int half = pieces[place] / 2; half >= span && half > 0; half /= 2) {
+            for (int half = pieces[place] / 2; half >= span && half > 0 && place + half < whole; half /= 2) {
                 pieces[place + half] = half;
             }
             pieces[place] = 0;
@@ -862,7 +862,7 @@ public final class RoomForms {
                 power += power;
                 k++;
             }
-            return 4 * k + 4 * (words - power) / power;
+            return 4 * k + (4 * (words - power) >> k);
         }
     }
 

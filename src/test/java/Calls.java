@@ -3,14 +3,16 @@ import java.lang.reflect.Method;
 
 /**
  * Runs calls on one new object of RoomForms and holds each answer against the one that is due.
- * Calls are written as text, one after another between semicolons: "give 5 = 0" for an answer,
+ * Calls are written as text, each ended by a semicolon or its line: "give 5 = 0" for an answer,
  * "give 0 ! IllegalArgumentException" for what is thrown, "open 0 16" for a call that just ends.
+ * The Model is asked the same, so that what was worked out by hand holds it too.
  */
 final class Calls {
     private static int wrong = 0;
     private static int told = 0;
 
     private final RoomForms forms = new RoomForms();
+    private final Model model = new Model();
     private final String name;
 
     private Calls(String name) {
@@ -23,7 +25,7 @@ final class Calls {
     }
 
     Calls then(String text) {
-        for (String call : text.split(";")) {
+        for (String call : text.split("[;\n]")) {
             if (!call.isBlank()) {
                 hold(call.trim());
             }
@@ -36,6 +38,7 @@ final class Calls {
         String asked = mark < 0 ? call : call.substring(0, mark).trim();
         String due = mark < 0 ? "null" : call.substring(mark + 1).trim();
         same(name + ": " + asked, answer(forms, asked), due);
+        same("the Model, " + name + ": " + asked, answer(model, asked), due);
     }
 
     /** Holds what was got against what is due. */
