@@ -6,11 +6,15 @@ public final class AtTest {
                 edges(form, words);
             }
         }
-        Calls.on("without ROOM", "at 0 ! IllegalStateException; at 1023 ! IllegalStateException; at -1 ! IllegalArgumentException; at 1024 ! IllegalArgumentException");
-        Calls.on("the first and the last word of a BLOCK", "open 0 20; give 3 = 0; give 17 = 1; at 0 = 0; at 2 = 0; at 3 = 1; at 19 = 1; back 0 = 0; at 2 = -1; at 3 = 1");
-        Calls.on("all words of a SPAN", "open 4 64; give 5 = 0; at 4 = 0; at 7 = 0; at 8 = -1; open 6 64; give 9 = 0; at 11 = 0; at 12 = -1;"
+        Calls.on("without ROOM", "at 0 ! IllegalStateException; at 1023 ! IllegalStateException; at -1 ! IllegalArgumentException;"
+                + "at 1024 ! IllegalArgumentException");
+        Calls.on("the first and the last word of a BLOCK", "open 0 20; give 3 = 0; give 17 = 1; at 0 = 0; at 2 = 0; at 3 = 1; at 19 = 1;"
+                + "back 0 = 0; at 2 = -1; at 3 = 1");
+        Calls.on("all words of a SPAN", "open 4 64; give 5 = 0; at 4 = 0; at 7 = 0; at 8 = -1; open 6 64; give 9 = 0; at 11 = 0;"
+                + "at 12 = -1;"
                 + "open 5 96; give 33 = 0; at 63 = 0; at 64 = -1");
-        Calls.on("\"QUICK ones .. are none\"", "open 9 20; give 8 = 0; give 8 = 1; back 0 = 0; at 0 = -1; at 7 = -1; at 8 = 1; give 8 = 2; at 0 = 2; at 7 = 2");
+        Calls.on("\"QUICK ones .. are none\"", "open 9 20; give 8 = 0; give 8 = 1; back 0 = 0; at 0 = -1; at 7 = -1; at 8 = 1; give 8 = 2;"
+                + "at 0 = 2; at 7 = 2");
         Calls.on("\"what was given back on the stack\" is none", """
                 open 8 20; give 8 = 0; give 8 = 1; back 0 = 0; count 11 = 16; at 0 = -1; at 7 = -1; at 8 = 1; at 15 = 1; at 16 = -1
                 back 1 = 8; count 11 = 0; at 0 = -1; at 8 = -1; give 20 = 2; at 0 = 2; at 19 = 2
@@ -20,7 +24,8 @@ public final class AtTest {
     }
 
     private static void edges(int form, int words) {
-        Calls.on("word 0, words - 1 and one beyond each end, form " + form, "open " + form + " " + words + "; at 0 = -1; at " + (words - 1) + " = -1;"
+        Calls.on("word 0, words - 1 and one beyond each end, form " + form, "open " + form + " " + words + "; at 0 = -1;"
+                + "at " + (words - 1) + " = -1;"
                 + "at -1 ! IllegalArgumentException; at " + words + " ! IllegalArgumentException; at 1024 ! IllegalArgumentException;"
                 + "at 2147483647 ! IllegalArgumentException; at -2147483648 ! IllegalArgumentException");
     }

@@ -41,13 +41,15 @@ public final class GiveFitsTest {
                 open 1 16; give 4 = 0; give 4 = 1; give 4 = 2; give 4 = 3; back 2 = 8; back 0 = 0
                 give 4 = 4; about 4 0 = 0; count 8 = 5; give 4 = 5; about 5 0 = 8; count 8 = 6; give 1 = -1; count 8 = 6
                 """);
-        Calls.on("the end is the ROOM's: no RUN is from there on", "open 1 16; give 16 = 0; back 0 = 0; give 3 = 1; about 1 0 = 0; count 8 = 2");
+        Calls.on("the end is the ROOM's: no RUN is from there on", "open 1 16; give 16 = 0; back 0 = 0; give 3 = 1; about 1 0 = 0;"
+                + "count 8 = 2");
         Calls.on("a RUN that ends at the end is not from there on", """
                 open 1 16; give 4 = 0; give 4 = 1; back 0 = 0; give 8 = 2; back 1 = 4; give 2 = 3; about 3 0 = 0; count 8 = 4
                 back 2 = 8; give 14 = 4; about 4 0 = 2; count 8 = 5
                 """);
         Calls.on("a RUN that begins at the end is not ahead of it", "open 1 16; give 4 = 0; give 13 = -1; count 8 = 2");
-        Calls.on("with the end in a RUN the whole of it is there in the second round", "open 1 16; give 4 = 0; back 0 = 0; give 13 = 1; about 1 0 = 0; count 8 = 3");
+        Calls.on("with the end in a RUN the whole of it is there in the second round", "open 1 16; give 4 = 0; back 0 = 0; give 13 = 1;"
+                + "about 1 0 = 0; count 8 = 3");
         Calls.on("ahead of the end and behind it", "open 1 20; give 4 = 0; give 4 = 1; give 12 = 2; back 1 = 4; back 0 = 0;"
                 + "back 2 = 8; give 20 = 3; back 3 = 0; give 8 = 4; give 4 = 5; give 8 = 6; back 4 = 0; give 1 = 7;"
                 + "about 7 0 = 0; back 5 = 8; give 5 = 8; about 8 0 = 1; give 1 = 9; about 9 0 = 6");
@@ -85,11 +87,13 @@ public final class GiveFitsTest {
     private static void emptyAndFull() {
         for (int form = 0; form < 4; form++) {
             for (int words : new int[] {16, 1023}) {
-                Calls.on("empty and full, form " + form, "open " + form + " " + words + "; give " + (words + 1) + " = -1; count 3 = 0; give " + words
+                Calls.on("empty and full, form " + form, "open " + form + " " + words + "; give " + (words + 1) + " = -1; count 3 = 0;"
+                        + "give " + words
                         + " = 0; about 0 0 = 0; about 0 1 = " + words + "; count 6 = 0; give 1 = -1; give " + words + " = -1; count 2 = 1;"
                         + "back 0 = 0; count 7 = " + words + "; give " + words + " = 1; about 1 0 = 0");
             }
-            Calls.on("the last word, form " + form, "open " + form + " 16; give 15 = 0; give 2 = -1; give 1 = 1; about 1 0 = 15; give 1 = -1;"
+            Calls.on("the last word, form " + form, "open " + form + " 16; give 15 = 0; give 2 = -1; give 1 = 1; about 1 0 = 15;"
+                    + "give 1 = -1;"
                     + "back 1 = 15; give 1 = 2; about 2 0 = 15; back 0 = 0; give 16 = -1; give 15 = 3; about 3 0 = 0");
         }
     }

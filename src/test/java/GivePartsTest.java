@@ -36,7 +36,8 @@ public final class GivePartsTest {
         for (int[] whole : wholes) {
             int words = whole[0];
             int w = whole[1];
-            Calls calls = Calls.on("W of " + words + " words", "open 4 " + words + "; count 10 = 1; give " + w + " = 0; about 0 0 = 0; about 0 1 = " + w
+            Calls calls = Calls.on("W of " + words + " words", "open 4 " + words + "; count 10 = 1; give " + w + " = 0; about 0 0 = 0;"
+                    + "about 0 1 = " + w
                     + "; count 10 = 0; give 1 = -1; count 7 = " + (words - w) + "; back 0 = 0; count 10 = 1");
             if (w < 1024) {
                 calls.then("give " + (w + 1) + " = -1; give 1024 = -1; count 10 = 1; count 2 = 0");
@@ -54,7 +55,8 @@ public final class GivePartsTest {
         for (int[] span : spans) {
             int n = span[0];
             int s = span[1];
-            Calls calls = Calls.on(sentence, "open " + form + " 1024; give " + n + " = 0; about 0 0 = 0; about 0 1 = " + s + "; about 0 2 = " + n
+            Calls calls = Calls.on(sentence, "open " + form + " 1024; give " + n + " = 0; about 0 0 = 0; about 0 1 = " + s + ";"
+                    + "about 0 2 = " + n
                     + "; count 4 = " + n + "; count 5 = " + s + "; count 7 = " + (1024 - s) + "; at " + (s - 1) + " = 0");
             if (s < 1024) {
                 calls.then("at " + s + " = -1; run 0 0 = " + s);
@@ -65,11 +67,13 @@ public final class GivePartsTest {
     private static void halvesBack() {
         Calls.on("free neighbours that are not halves of one", "open 4 16; give 4 = 0; give 4 = 1; give 4 = 2; give 4 = 3; back 1 = 4;"
                 + "back 2 = 8; count 10 = 2; run 0 1 = 8; give 8 = -1; give 5 = -1; back 0 = 0; count 10 = 2; give 8 = 4; about 4 0 = 0");
-        Calls.on("\"both become that again, and so on\"", "open 4 1024; give 1024 = 0; back 0 = 0; give 1 = 1; count 10 = 10; back 1 = 0; count 10 = 1;"
+        Calls.on("\"both become that again, and so on\"", "open 4 1024; give 1024 = 0; back 0 = 0; give 1 = 1; count 10 = 10; back 1 = 0;"
+                + "count 10 = 1;"
                 + "give 1024 = 2; about 2 0 = 0");
         Calls.on("the other half is halved itself", "open 4 16; give 8 = 0; give 4 = 1; give 4 = 2; back 1 = 8;"
                 + "back 0 = 0; count 10 = 2; give 8 = 3; about 3 0 = 0; back 2 = 12; count 10 = 1; back 3 = 0; count 10 = 1; give 16 = 4");
-        Calls.on("the second half comes back first", "open 4 16; give 8 = 0; give 8 = 1; back 1 = 8; count 10 = 1; give 16 = -1; back 0 = 0; count 10 = 1; give 16 = 2");
+        Calls.on("the second half comes back first", "open 4 16; give 8 = 0; give 8 = 1; back 1 = 8; count 10 = 1; give 16 = -1;"
+                + "back 0 = 0; count 10 = 1; give 16 = 2");
     }
 
     private static void pages() {
@@ -106,7 +110,8 @@ public final class GivePartsTest {
             if (all == 0) {
                 calls.then("give 1 = -1; give 32 = -1; give 40 = -1; count 8 = 0; count 7 = " + page[0]);
             } else {
-                calls.then("give " + all + " = 0; about 0 1 = " + all + "; count 10 = 0; count 8 = " + page[1] + "; give 1 = -1; count 7 = " + (page[0] - all)
+                calls.then("give " + all + " = 0; about 0 1 = " + all + "; count 10 = 0; count 8 = " + page[1] + "; give 1 = -1;"
+                        + "count 7 = " + (page[0] - all)
                         + "; back 0 = 0; count 10 = " + page[1]);
             }
             if (all > 0 && all < 1024) {
@@ -123,21 +128,27 @@ public final class GivePartsTest {
     }
 
     private static void freePages() {
-        Calls.on("\"A PAGE in which nothing is left is free.\": it is of another SPAN then", "open 5 64; give 2 = 0; give 4 = 1; back 0 = 0; count 10 = 1;"
+        Calls.on("\"A PAGE in which nothing is left is free.\": it is of another SPAN then", "open 5 64; give 2 = 0; give 4 = 1;"
+                + "back 0 = 0; count 10 = 1;"
                 + "give 4 = 2; about 2 0 = 36; give 16 = 3; about 3 0 = 0; count 10 = 0; give 2 = -1");
-        Calls.on("a PAGE in which one place is left is not free", "open 5 32; give 1 = 0; give 1 = 1; back 0 = 0; count 10 = 0; give 2 = -1; give 32 = -1;"
+        Calls.on("a PAGE in which one place is left is not free", "open 5 32; give 1 = 0; give 1 = 1; back 0 = 0; count 10 = 0;"
+                + "give 2 = -1; give 32 = -1;"
                 + "back 1 = 1; count 10 = 1; give 2 = 2; about 2 0 = 0; back 2 = 0; give 32 = 3; about 3 0 = 0");
-        Calls.on("\"no such: the first free PAGE is of that SPAN then\"", "open 5 128; give 32 = 0; give 32 = 1; give 32 = 2; back 1 = 32; give 1 = 3; about 3 0 = 32;"
+        Calls.on("\"no such: the first free PAGE is of that SPAN then\"", "open 5 128; give 32 = 0; give 32 = 1; give 32 = 2; back 1 = 32;"
+                + "give 1 = 3; about 3 0 = 32;"
                 + "give 2 = 4; about 4 0 = 96; give 4 = -1");
     }
 
     private static void rowsOfPages() {
-        Calls.on("\"the first row of so many free PAGES\"", "open 5 224; give 32 = 0; give 32 = 1; give 32 = 2; give 65 = 3; about 3 0 = 96;"
+        Calls.on("\"the first row of so many free PAGES\"", "open 5 224; give 32 = 0; give 32 = 1; give 32 = 2; give 65 = 3;"
+                + "about 3 0 = 96;"
                 + "about 3 1 = 96; back 1 = 32; count 8 = 15; give 64 = -1; count 8 = 22; back 2 = 64; give 34 = 4; about 4 0 = 32;"
                 + "count 8 = 25; count 10 = 1; back 3 = 96; count 10 = 4; give 129 = -1; give 128 = 5; about 5 0 = 96; count 4 = 194");
-        Calls.on("enough free PAGES, but not in one row", "open 5 96; give 32 = 0; give 32 = 1; give 32 = 2; back 0 = 0; back 2 = 64; count 10 = 2;"
+        Calls.on("enough free PAGES, but not in one row", "open 5 96; give 32 = 0; give 32 = 1; give 32 = 2; back 0 = 0; back 2 = 64;"
+                + "count 10 = 2;"
                 + "give 33 = -1; back 1 = 32; give 96 = 3; about 3 0 = 0");
-        Calls.on("the row at the end of the ROOM", "open 5 96; give 1 = 0; give 64 = 1; about 1 0 = 32; count 8 = 4; count 10 = 0; back 1 = 32; count 10 = 2; give 65 = -1");
+        Calls.on("the row at the end of the ROOM", "open 5 96; give 1 = 0; give 64 = 1; about 1 0 = 32; count 8 = 4; count 10 = 0;"
+                + "back 1 = 32; count 10 = 2; give 65 = -1");
         Calls.on("the PAGES of a greater BLOCK are of no small SPAN", "open 5 96; give 64 = 0; give 32 = 1; about 1 0 = 64; count 8 = 5");
     }
 
@@ -153,13 +164,15 @@ public final class GivePartsTest {
     private static void howManyGrains() {
         for (int words : new int[] {16, 19, 20, 1023, 1024}) {
             int all = words / 4 * 4;
-            Calls calls = Calls.on("GRAINS of " + words + " words", "open 6 " + words + "; give " + all + " = 0; about 0 1 = " + all + "; count 8 = 1;"
+            Calls calls = Calls.on("GRAINS of " + words + " words", "open 6 " + words + "; give " + all + " = 0; about 0 1 = " + all + ";"
+                    + "count 8 = 1;"
                     + "give 1 = -1; count 7 = " + (words - all) + "; back 0 = 0");
             if (all < 1024) {
                 calls.then("open 6 " + words + "; give " + (all + 1) + " = -1; count 8 = 0; give 1024 = -1; count 8 = 0");
             }
         }
-        Calls.on("free GRAINS that no multiple of A begins", "open 6 32; give 4 = 0; give 4 = 1; give 4 = 2; give 4 = 3; back 1 = 4; back 2 = 8; run 0 1 = 8;"
+        Calls.on("free GRAINS that no multiple of A begins", "open 6 32; give 4 = 0; give 4 = 1; give 4 = 2; give 4 = 3; back 1 = 4;"
+                + "back 2 = 8; run 0 1 = 8;"
                 + "give 16 = 4; about 4 0 = 16; give 8 = -1; give 4 = 5; about 5 0 = 4; give 4 = 6; about 6 0 = 8; give 1 = -1");
     }
 
@@ -167,9 +180,11 @@ public final class GivePartsTest {
     private static void stepsOfGrains() {
         int[][] steps = {{1, 1}, {2, 2}, {3, 4}, {4, 4}, {5, 8}, {7, 8}, {8, 8}, {9, 8}, {16, 8}, {17, 8}, {248, 8}};
         for (int[] step : steps) {
-            Calls.on("A of " + step[0] + " GRAINS", "open 6 1024; give 4 = 0; give " + 4 * step[0] + " = 1; about 1 0 = " + 4 * step[1] + "; count 8 = 3");
+            Calls.on("A of " + step[0] + " GRAINS", "open 6 1024; give 4 = 0; give " + 4 * step[0] + " = 1;"
+                    + "about 1 0 = " + 4 * step[1] + "; count 8 = 3");
         }
         Calls.on("no multiple of 8 is left from which on there are 249", "open 6 1024; give 4 = 0; give 996 = -1; count 8 = 2");
-        Calls.on("\"but at most 8\"", "open 6 256; give 4 = 0; give 48 = 1; about 1 0 = 32; count 8 = 3; give 68 = 2; about 2 0 = 96; count 8 = 7");
+        Calls.on("\"but at most 8\"", "open 6 256; give 4 = 0; give 48 = 1; about 1 0 = 32; count 8 = 3; give 68 = 2; about 2 0 = 96;"
+                + "count 8 = 7");
     }
 }

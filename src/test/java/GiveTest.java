@@ -6,7 +6,8 @@ public final class GiveTest {
                     + "give -1 ! IllegalArgumentException; give 1025 ! IllegalArgumentException;"
                     + "give 2147483647 ! IllegalArgumentException; give -2147483648 ! IllegalArgumentException;"
                     + "count 3 = 0; count 8 = 0; give 1024 = 0; about 0 0 = 0; about 0 1 = 1024; give 1 = -1; count 3 = 1; count 2 = 1");
-            Calls.on("no room takes no NUMBER in form " + form, "open " + form + " 40; give 1024 = -1; give 32 = 0; give 33 = -1; back 0 = 0; give 1 = 1");
+            Calls.on("no room takes no NUMBER in form " + form, "open " + form + " 40; give 1024 = -1; give 32 = 0; give 33 = -1;"
+                    + "back 0 = 0; give 1 = 1");
             twoHundred(form);
         }
         Calls.end();
@@ -19,7 +20,8 @@ public final class GiveTest {
         }
         String looked = "count 8 = " + lookedAtTwoHundred(form) + ";";
         calls.then(looked + "give 1 ! IndexOutOfBoundsException; give 1024 ! IndexOutOfBoundsException; give 0 ! IllegalArgumentException;"
-                + looked + "count 2 = 200; count 3 = 200; back 7 = " + (form == 6 ? 28 : 7) + "; count 2 = 199; give 1 = 200; count 2 = 200;"
+                + looked + "count 2 = 200; count 3 = 200; back 7 = " + (form == 6 ? 28 : 7) + "; count 2 = 199; give 1 = 200;"
+                + "count 2 = 200;"
                 + "give 1 ! IndexOutOfBoundsException; back 7 ! NoSuchElementException; back 200 = " + placeAgain(form));
     }
 

@@ -14,7 +14,7 @@ public final class LookedTest {
     }
 
     private static void fits() {
-        Calls.on("first: \"RUNS (0 to 3 ..) were come to\"", """
+        Calls.on("first: \"how many RUNS (0 to 3\" .. \"were come to by give, in all\"", """
                 open 0 20; give 4 = 0; give 4 = 1; give 4 = 2; give 4 = 3; count 8 = 4; back 0 = 0; back 2 = 8; count 8 = 4
                 give 4 = 4; count 8 = 5; give 2 = 5; count 8 = 6; give 4 = 6; count 8 = 8
                 give 3 = -1; count 8 = 9; give 2 = 7; count 8 = 10; give 1 = -1; count 8 = 10
@@ -76,19 +76,22 @@ public final class LookedTest {
 
     private static void levels() {
         Calls.on("\"RUNS whose words were looked at (7)\"", """
-                open 7 64; give 19 = 0; give 1 = 1; give 16 = 2; give 1 = 3; count 8 = 0; back 0 = 0; back 2 = 20; list 16 0 = 20; list 16 1 = 0
+                open 7 64; give 19 = 0; give 1 = 1; give 16 = 2; give 1 = 3; count 8 = 0; back 0 = 0; back 2 = 20; list 16 0 = 20
+                list 16 1 = 0
                 give 16 = 4; about 4 0 = 20; count 8 = 1; back 4 = 20; give 17 = 5; about 5 0 = 0; count 8 = 3
                 give 18 = 6; about 6 0 = 37; count 8 = 4; give 19 = -1; count 8 = 5; give 64 = -1; count 8 = 5
                 """);
     }
 
     private static void stack() {
-        Calls.on("\"1 (8)\", with room and without", "open 8 16; give 16 = 0; count 8 = 1; give 1 = -1; count 8 = 2; back 0 = 0; count 8 = 2;"
+        Calls.on("\"1 (8)\", with room and without", "open 8 16; give 16 = 0; count 8 = 1; give 1 = -1; count 8 = 2; back 0 = 0;"
+                + "count 8 = 2;"
                 + "give 17 = -1; count 8 = 3; give 1 = 1; give 1 = 2; count 8 = 5");
     }
 
     private static void quick() {
-        Calls.on("\"9 without QUICK ones\"", "open 9 24; give 8 = 0; give 8 = 1; count 8 = 2; back 0 = 0; give 8 = 2; about 2 0 = 0; count 8 = 2;"
+        Calls.on("\"9 without QUICK ones\"", "open 9 24; give 8 = 0; give 8 = 1; count 8 = 2; back 0 = 0; give 8 = 2; about 2 0 = 0;"
+                + "count 8 = 2;"
                 + "back 2 = 0; give 7 = 3; about 3 0 = 16; count 8 = 3");
         Calls.on("\"what a second try comes to counts too\"", """
                 open 9 24; give 8 = 0; give 8 = 1; back 0 = 0; back 1 = 8; count 8 = 2; give 9 = 2; about 2 0 = 0; count 8 = 4

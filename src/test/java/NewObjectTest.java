@@ -47,7 +47,8 @@ public final class NewObjectTest {
     private static void untilOpened() {
         Calls.on("a refused open makes no ROOM", "open 10 16 ! IllegalArgumentException; open 9 1025 ! IllegalArgumentException;"
                 + "count 0 = -1; count 1 = 0; give 1 ! IllegalStateException");
-        Calls.on("worst needs no ROOM, and makes none", "worst 0 1 1 = 1; count 12 = 2; count 0 = -1; count 1 = 0; give 1 ! IllegalStateException");
+        Calls.on("worst needs no ROOM, and makes none", "worst 0 1 1 = 1; count 12 = 2; count 0 = -1; count 1 = 0;"
+                + "give 1 ! IllegalStateException");
         Calls.on("one object in use", "open 0 16; give 16 = 0; worst 0 1 1 = 1");
         Calls.on("another object beside it", "count 0 = -1; count 2 = 0; count 12 = 0; at 0 ! IllegalStateException");
     }
