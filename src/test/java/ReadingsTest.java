@@ -1,6 +1,7 @@
 /**
  * Where the document's words leave a choice: what they say most plainly, a test for each. README.md
- * names the readings; what is held here was worked out from the words that are quoted.
+ * names the readings; what is held here was worked out from the words that are quoted (the numbers of
+ * worst, which are too great for that, are those in which the program and the Model agree).
  */
 public final class ReadingsTest {
     public static void main(String[] args) {
