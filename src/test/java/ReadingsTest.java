@@ -11,6 +11,7 @@ public final class ReadingsTest {
         negativePlaces();
         roomsThatWorstComesTo();
         blocksThatAreThere();
+        wordsInNoPart();
         Calls.end();
     }
 
@@ -69,6 +70,8 @@ public final class ReadingsTest {
                 + "run -1 2 ! IllegalArgumentException;"
                 + "list -1 -1 ! IllegalArgumentException; open 0 16; list 0 -1 ! UnsupportedOperationException;"
                 + "run -1 -1 ! IllegalArgumentException");
+        Calls.on("a negative block is \"a BLOCK that is not there\"", "back -1 ! IllegalStateException; open 0 16;"
+                + "back -1 ! NoSuchElementException; about -1 0 ! NoSuchElementException; give 17 = -1; back -1 ! NoSuchElementException");
     }
 
     /**
@@ -94,5 +97,14 @@ public final class ReadingsTest {
                     + "give 1 ! IndexOutOfBoundsException;"
                     + "count 9 = " + (form == 9 ? 1 : 0) + "; count 3 = 201");
         }
+    }
+
+    /** Words behind W, behind the last PAGE "of 32 words" and behind the last GRAIN "of 4 words" are given to no BLOCK, but are in RUNS. */
+    private static void wordsInNoPart() {
+        Calls.on("behind W", "open 4 35; give 32 = 0; give 1 = -1; count 6 = 1; run 0 0 = 32; run 0 1 = 3; count 10 = 0");
+        Calls.on("behind the last PAGE", "open 5 63; give 32 = 0; give 1 = -1; count 6 = 1; run 0 0 = 32; run 0 1 = 31; count 10 = 0;"
+                + "count 8 = 2");
+        Calls.on("behind the last GRAIN", "open 6 35; give 32 = 0; give 1 = -1; count 6 = 1; run 0 0 = 32; run 0 1 = 3; count 8 = 9");
+        Calls.on("no PAGE at all", "open 5 31; count 10 = 0; give 1 = -1; give 33 = -1; count 8 = 0; run 0 1 = 31");
     }
 }
